@@ -597,6 +597,7 @@ public final class PatternValidator {
                         include(pattern, grammar.given[first]);
                     }
                     break;
+                case NONE:
                 default:
                     break;
             }
@@ -672,7 +673,7 @@ public final class PatternValidator {
                 for (int step = 0; step < MOST_ROWS && left != 0; step++) {
                     int row = Long.bitCount((left & -left) - 1);
                     append(pattern, set, row, second, room[row]);
-                    left = rows[at] & -2L << row;
+                    left = rows[at] & (-2L << row);
                 }
             }
         }
