@@ -29,6 +29,13 @@ final class Check {
         }
     }
 
+    void same(String what, String due, String got) {
+        done++;
+        if (!got.equals(due)) {
+            report(what, got, due);
+        }
+    }
+
     void holds(String what, boolean asDue) {
         done++;
         if (!asDue) {

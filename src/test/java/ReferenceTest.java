@@ -121,8 +121,13 @@ public final class ReferenceTest {
             return;
         }
         int kind = most < 4 ? below(4) : wild(11);
-        int a = kind == 3 ? below(3) : kind == 8 || kind == 9 ? name() : kind == 10 ? wild(4) : wild(most);
-        make(kind, a, kind == 3 ? a + below(3) : wild(most));
+        if (kind == 3) {
+            int least = value();
+            make(kind, least, below(4) == 0 ? value() : least + below(3));
+            return;
+        }
+        int a = kind == 8 || kind == 9 ? name() : kind == 10 ? wild(4) : wild(most);
+        make(kind, a, wild(most));
     }
 
     private void build() {
@@ -130,9 +135,9 @@ public final class ReferenceTest {
         if (which < 4) {
             openOne(below(20) == 0 ? wild(6) : below(2));
         } else if (which < 6) {
-            addAttribute(wild(6), below(4));
+            addAttribute(wild(6), value());
         } else if (which < 9) {
-            addText(below(4));
+            addText(value());
         } else if (which == 9 || reference.count(3) > 1) {
             same("close()", validator::close, reference::close);
         } else if (below(6) == 0) {
@@ -174,10 +179,18 @@ public final class ReferenceTest {
         return below(3) == 0 ? wild(7) : below(2) == 0 ? 6 : below(2);
     }
 
-    /** Mostly one of 0 .. many - 1, now and then one just outside. */
+    /** Mostly one of 0 .. many - 1, now and then one just or far outside. */
     private int wild(int many) {
+        int chance = below(80);
+        if (chance < 2) {
+            return chance == 0 ? Integer.MIN_VALUE : Integer.MAX_VALUE;
+        }
+        return chance < 4 ? -1 : chance < 6 || many == 0 ? many : below(many);
+    }
+
+    private int value() {
         int chance = below(40);
-        return chance == 0 ? -1 : chance == 1 || many == 0 ? many : below(many);
+        return chance == 0 ? Integer.MIN_VALUE : chance == 1 ? Integer.MAX_VALUE : below(4);
     }
 
     private int below(int bound) {
