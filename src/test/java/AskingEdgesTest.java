@@ -246,7 +246,9 @@ public final class AskingEdgesTest {
 
     private static void contentOfNothing() {
         PatternValidator v = new PatternValidator();
-        int[] patterns = {v.pattern(EMPTY, 0, 0), v.pattern(NONE, 0, 0), v.pattern(TEXT, 0, 0), v.pattern(NUMBER, 0, 0)};
+        int[] patterns = {
+            v.pattern(EMPTY, 0, 0), v.pattern(NONE, 0, 0), v.pattern(TEXT, 0, 0), v.pattern(NUMBER, 0, 0),
+        };
         int[] due = {1, 0, 1, 0};
         v.open(0);
         for (int i = 0; i < patterns.length; i++) {
@@ -463,7 +465,9 @@ public final class AskingEdgesTest {
         int leaf = deep.pattern(ELEMENT, 6, empty);
         int parent = deep.pattern(ELEMENT, 6, deep.pattern(MORE, leaf, 0));
         deep.open(0);
+        int textOrNode = deep.pattern(CHOICE, deep.pattern(TEXT, 0, 0), leaf);
         CHECK.answers("the top alone", 0, () -> deep.find(leaf));
+        CHECK.answers("one that matches texts, too", 0, () -> deep.find(textOrNode));
         deep.open(0);
         CHECK.answers("the least leaf", 1, () -> deep.find(leaf));
         CHECK.answers("the least parent", 0, () -> deep.find(parent));

@@ -31,6 +31,7 @@ public final class KindEdgesTest {
         groupKeepsTheOrder();
         attributesArePartedInAnyWay();
         interleavePartsInAnyWay();
+        noChildIsInBothRows();
         choiceIsAOrB();
         choiceHasAttributesWithChildren();
         moreIsOneOrMore();
@@ -41,6 +42,7 @@ public final class KindEdgesTest {
         elementNames();
         elementIsOne();
         elementHasNoAttributes();
+        elementIsNoAttribute();
         elementHasItsAttributesWithItsChildren();
         attributeNames();
         attributeIsOne();
@@ -51,6 +53,7 @@ public final class KindEdgesTest {
         definitionIsWhatItWasGiven();
         definitionInItsOwnElement();
         nodeIsARowOfItself();
+        lastPatternOnTheFullestNode();
         CHECK.end();
     }
 
@@ -284,6 +287,27 @@ public final class KindEdgesTest {
         }
     }
 
+    private static void noChildIsInBothRows() {
+        for (int kind = GROUP; kind <= INTERLEAVE; kind++) {
+            for (int before = 0; before <= 2; before++) {
+                for (int ones = 0; ones <= 4; ones++) {
+                    PatternValidator v = new PatternValidator();
+                    int one = v.pattern(NUMBER, 1, 1);
+                    int two = v.pattern(kind, one, one);
+                    int behind = v.pattern(GROUP, any(v, 2), two);
+                    int amidst = v.pattern(INTERLEAVE, two, any(v, 2));
+                    int more = v.pattern(MORE, two, 0);
+                    String row = "22".substring(0, before) + "1111".substring(0, ones);
+                    lay(v, 0, row);
+                    content("kind " + kind + " behind others, " + row, ones == 2, v, behind);
+                    content("kind " + kind + " amidst others, " + row, ones == 2, v, amidst);
+                    content("kind " + kind + " again and again, " + row,
+                            before == 0 && (ones == 2 || ones == 4), v, more);
+                }
+            }
+        }
+    }
+
     private static void choiceIsAOrB() {
         PatternValidator v = new PatternValidator();
         int none = v.pattern(NONE, 0, 0);
@@ -462,6 +486,20 @@ public final class KindEdgesTest {
         for (int attributes = 0; attributes <= 3; attributes++) {
             lay(v, attributes, "e");
             content("ELEMENT beside " + attributes + " attributes", attributes == 0, v, element);
+        }
+    }
+
+    private static void elementIsNoAttribute() {
+        PatternValidator v = new PatternValidator();
+        int text = v.pattern(TEXT, 0, 0);
+        int one = v.pattern(NUMBER, 1, 1);
+        for (int name = 0; name <= 6; name++) {
+            lay(v, 1, "");
+            content("ELEMENT " + name + ", an attribute of such a value", false, v, v.pattern(ELEMENT, name, text));
+            content("ELEMENT " + name + ", an attribute of this value", false, v, v.pattern(ELEMENT, name, one));
+            lay(v, 0, "1");
+            content("ELEMENT " + name + ", such a text", false, v, v.pattern(ELEMENT, name, text));
+            content("ATTRIBUTE " + name + ", such a text", false, v, v.pattern(ATTRIBUTE, name, text));
         }
     }
 
@@ -653,6 +691,42 @@ public final class KindEdgesTest {
         v.text(5);
         for (int[] one : due) {
             CHECK.answers("pattern " + one[0] + " matches the node", one[1], () -> v.matches(one[0], 2));
+        }
+    }
+
+    /** 39 patterns; 6 is a DEFINITION of three attributes with texts, 7 is EMPTY, those from 8 on are NONE. */
+    private static void allButOne(PatternValidator v) {
+        int text = v.pattern(TEXT, 0, 0);
+        v.pattern(NUMBER, LEAST, GREATEST);
+        int attribute = v.pattern(ATTRIBUTE, 6, text);
+        int two = v.pattern(GROUP, attribute, attribute);
+        int three = v.pattern(GROUP, two, attribute);
+        v.define(3, v.pattern(GROUP, three, text));
+        v.pattern(DEFINITION, 3, 0);
+        v.pattern(EMPTY, 0, 0);
+        for (int i = 8; i < 39; i++) {
+            v.pattern(NONE, 0, 0);
+        }
+    }
+
+    private static void lastPatternOnTheFullestNode() {
+        int[][] last = {
+            {EMPTY, 0, 0, 0}, {NONE, 0, 0, 0}, {TEXT, 0, 0, 0}, {NUMBER, LEAST, GREATEST, 0},
+            {GROUP, 6, 7, 1}, {GROUP, 7, 6, 1}, {GROUP, 6, 6, 0}, {GROUP, 6, 8, 0},
+            {INTERLEAVE, 6, 7, 1}, {INTERLEAVE, 6, 0, 1}, {INTERLEAVE, 6, 6, 0}, {INTERLEAVE, 8, 6, 0},
+            {CHOICE, 6, 8, 1}, {CHOICE, 38, 6, 1}, {CHOICE, 7, 0, 0},
+            {MORE, 6, 0, 1}, {MORE, 2, 0, 0}, {ELEMENT, 6, 6, 0}, {ATTRIBUTE, 6, 0, 0},
+            {DEFINITION, 3, 0, 1}, {DEFINITION, 0, 0, 0},
+        };
+        for (int[] one : last) {
+            PatternValidator v = new PatternValidator();
+            allButOne(v);
+            CHECK.answers("the 40th", 39, () -> v.pattern(one[0], one[1], one[2]));
+            lay(v, 3, "111111");
+            content("the 40th of kind " + one[0] + " on the fullest node", one[3] == 1, v, 39);
+            content("the 39th is still NONE", false, v, 38);
+            content("the one given is still the same", true, v, 5);
+            CHECK.answers("the fullest node itself", one[0] == ELEMENT ? 1 : 0, () -> v.matches(39, 0));
         }
     }
 }

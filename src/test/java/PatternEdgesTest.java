@@ -354,8 +354,9 @@ public final class PatternEdgesTest {
         for (int asked : wrong) {
             for (int i = 4; i <= 6; i++) {
                 int kind = i;
-                TWINS.refuses("too deep, kind " + kind + ", b " + asked, ARGUMENT, five, v -> v.pattern(kind, 4, asked));
-                TWINS.refuses("too deep, kind " + kind + ", a " + asked, ARGUMENT, five, v -> v.pattern(kind, asked, 4));
+                String what = "too deep, kind " + kind + ", pattern " + asked;
+                TWINS.refuses(what + " as b", ARGUMENT, five, v -> v.pattern(kind, 4, asked));
+                TWINS.refuses(what + " as a", ARGUMENT, five, v -> v.pattern(kind, asked, 4));
             }
         }
         for (int i = ELEMENT; i <= ATTRIBUTE; i++) {
@@ -569,35 +570,36 @@ public final class PatternEdgesTest {
         CHECK.answers("0 by 2, likewise", 0, () -> v.define(0, 2));
     }
 
-    /** Each definition is given one of depth 5 that ends in the next one. */
-    private static void longestChain(PatternValidator v) {
-        for (int definition = 0; definition <= 3; definition++) {
-            int deep = definition == 3 ? v.pattern(TEXT, 0, 0) : v.pattern(DEFINITION, definition + 1, 0);
-            deep = v.pattern(4, deep, deep);
-            deep = v.pattern(5, deep, deep);
-            deep = v.pattern(6, deep, deep);
-            deep = v.pattern(ATTRIBUTE, 6, deep);
-            v.define(definition, deep);
-        }
-        v.pattern(DEFINITION, 0, 0);
-        for (int i = 0; i < 4; i++) {
-            v.pattern(MORE, 20 + i, 0);
+    /** Each definition is given one of depth 5 that ends in the next one; 20 to 24 are upon the first. */
+    private static void longestChain(PatternValidator v, int kind) {
+        for (int definition = 0; definition <= 4; definition++) {
+            int asked = (definition + 1) % 5;
+            int deep = asked == 4 ? v.pattern(TEXT, 0, 0) : v.pattern(DEFINITION, asked, 0);
+            for (int depth = 2; depth <= 5; depth++) {
+                deep = v.pattern(kind, argumentA(kind, deep), deep);
+            }
+            if (definition < 4) {
+                v.define(definition, deep);
+            }
         }
     }
 
     private static void comesToByTheLongestChain() {
-        for (int i = 0; i <= 3; i++) {
-            int definition = i;
-            for (int k = 20; k <= 24; k++) {
-                int pattern = k;
-                TWINS.refuses("define " + i + " by the longest chain", UNSUPPORTED, PatternEdgesTest::longestChain,
-                        v -> v.define(definition, pattern));
+        int[] kinds = {4, 5, 6, MORE, ATTRIBUTE};
+        for (int kind : kinds) {
+            for (int i = 0; i <= 3; i++) {
+                int definition = i;
+                for (int k = 20; k <= 24; k++) {
+                    int pattern = k;
+                    TWINS.refuses("define " + i + " by the longest chain of kind " + kind, UNSUPPORTED,
+                            v -> longestChain(v, kind), v -> v.define(definition, pattern));
+                }
             }
+            PatternValidator v = new PatternValidator();
+            longestChain(v, kind);
+            CHECK.answers("the end of the chain comes to none", 0, () -> v.define(0, 19));
+            CHECK.answers("so the end may come to the start", 0, () -> v.define(3, 24));
         }
-        PatternValidator v = new PatternValidator();
-        longestChain(v);
-        CHECK.answers("the end of the chain comes to none", 0, () -> v.define(0, 19));
-        CHECK.answers("so the end may come to the start", 0, () -> v.define(3, 24));
     }
 
     private static void comesToAsTheDefinitionsAreNow() {
