@@ -54,6 +54,7 @@ public final class KindEdgesTest {
         definitionInItsOwnElement();
         nodeIsARowOfItself();
         lastPatternOnTheFullestNode();
+        oneMadeOfAllForty();
         CHECK.end();
     }
 
@@ -296,15 +297,30 @@ public final class KindEdgesTest {
                     int two = v.pattern(kind, one, one);
                     int behind = v.pattern(GROUP, any(v, 2), two);
                     int amidst = v.pattern(INTERLEAVE, two, any(v, 2));
-                    int more = v.pattern(MORE, two, 0);
                     String row = "22".substring(0, before) + "1111".substring(0, ones);
                     lay(v, 0, row);
                     content("kind " + kind + " behind others, " + row, ones == 2, v, behind);
                     content("kind " + kind + " amidst others, " + row, ones == 2, v, amidst);
-                    content("kind " + kind + " again and again, " + row,
-                            before == 0 && (ones == 2 || ones == 4), v, more);
                 }
             }
+            noneOfManyIsInBothRows(kind);
+        }
+    }
+
+    private static void noneOfManyIsInBothRows(int kind) {
+        for (int ones = 0; ones <= 6; ones++) {
+            PatternValidator v = new PatternValidator();
+            int one = v.pattern(NUMBER, 1, 1);
+            int two = v.pattern(kind, one, one);
+            int three = v.pattern(kind, two, one);
+            int turned = v.pattern(kind, one, two);
+            lay(v, 0, "111111".substring(0, ones));
+            String what = "kind " + kind + ", " + ones + " children, ";
+            content(what + "two and three", ones == 5, v, v.pattern(GROUP, two, three));
+            content(what + "two and three turned", ones == 5, v, v.pattern(GROUP, two, turned));
+            content(what + "three and three", ones == 6, v, v.pattern(INTERLEAVE, three, turned));
+            content(what + "twos", ones > 0 && ones % 2 == 0, v, v.pattern(MORE, two, 0));
+            content(what + "threes", ones > 0 && ones % 3 == 0, v, v.pattern(MORE, three, 0));
         }
     }
 
@@ -728,5 +744,43 @@ public final class KindEdgesTest {
             content("the one given is still the same", true, v, 5);
             CHECK.answers("the fullest node itself", one[0] == ELEMENT ? 1 : 0, () -> v.matches(39, 0));
         }
+    }
+
+    /** A CHOICE of the numbers from low to high - 1, which are a power of two, halved again and again. */
+    private static int eitherOf(PatternValidator v, int low, int high) {
+        if (high - low == 1) {
+            return v.pattern(NUMBER, low, low);
+        }
+        int middle = (low + high) / 2;
+        int first = eitherOf(v, low, middle);
+        return v.pattern(CHOICE, first, eitherOf(v, middle, high));
+    }
+
+    /** 15 patterns of eight numbers, a second time for the content of elements, and ten more on the way. */
+    private static void oneMadeOfAllForty() {
+        PatternValidator v = new PatternValidator();
+        v.define(0, eitherOf(v, 0, 8));
+        int inside = eitherOf(v, 10, 18);
+        int element = v.pattern(ELEMENT, 6, inside);
+        v.define(1, element);
+        int elements = v.pattern(MORE, v.pattern(DEFINITION, 1, 0), 0);
+        int texts = v.pattern(MORE, v.pattern(DEFINITION, 0, 0), 0);
+        int attribute = v.pattern(ATTRIBUTE, 6, v.pattern(TEXT, 0, 0));
+        int both = v.pattern(INTERLEAVE, elements, texts);
+        int all = v.pattern(GROUP, v.pattern(MORE, attribute, 0), both);
+        CHECK.answers("all 40 are part of the last", 39, () -> all);
+        v.open(0);
+        v.attribute(5, GREATEST);
+        v.text(0);
+        v.open(0);
+        v.text(10);
+        v.close();
+        v.text(7);
+        v.open(5);
+        v.text(17);
+        content("one made of all 40", true, v, all);
+        v.text(17);
+        content("one made of all 40, two texts in an element", false, v, all);
+        CHECK.answers("but it goes right that far", 3, () -> v.longest(all, 0));
     }
 }
