@@ -45,7 +45,9 @@ public final class FaceTest {
             check.holds(inside + " is static", Modifier.isStatic(inside.getModifiers()));
             check.holds(inside + " is not to be seen", !Modifier.isPublic(inside.getModifiers()));
             checkStaticFields(check, inside);
+            checkPrivateNames(check, inside, face);
         }
+        checkPrivateNames(check, face, face);
         check.end();
     }
 
@@ -60,6 +62,17 @@ public final class FaceTest {
         for (Field field : holder.getDeclaredFields()) {
             if (Modifier.isStatic(field.getModifiers())) {
                 check.holds(field + " is final", Modifier.isFinal(field.getModifiers()));
+            }
+        }
+    }
+
+    /** No private method bears the name of a public one. */
+    private static void checkPrivateNames(Check check, Class<?> holder, Class<?> face) {
+        for (Method method : holder.getDeclaredMethods()) {
+            if (Modifier.isPrivate(method.getModifiers())) {
+                for (Method other : face.getMethods()) {
+                    check.holds(method + " has a name of its own", !method.getName().equals(other.getName()));
+                }
             }
         }
     }
